@@ -35,6 +35,14 @@ public final class SaidShorter {
   /** The words in the order of the bits that heard() answers. */
   private static final int[] WORDS = {'p', 'q', 'r', 'A', 'B', 'C', 'D', 'n', 'a', 'o'};
 
+  /** The words in the order of a draw below 6, the facts first. */
+  private static final int[] DRAWN = {'p', 'q', 'r', 'n', 'a', 'o'};
+  /** In so many others a drawn saying is a fact. */
+  private static final int DEEPEST = 3;
+
+  /** The worlds with the bit of p, q, r. */
+  private static final int[] FACT_MEANINGS = {170, 204, 240};
+
   private final Letters letters = new Letters();
   private School now = new School();
   private School trial = new School();
@@ -49,7 +57,8 @@ public final class SaidShorter {
   private final Fewest[] fewestOf = new Fewest[MOST_STRANGERS + 1];
   private final Fewest fewestThen = new Fewest();
   private final Saying scratch = new Saying();
-  private final Drawer drawer = new Drawer();
+  /** The seed of the draws of one call. */
+  private int seed = 0;
 
   public SaidShorter() {
     for (int i = 0; i < fewestOf.length; i++) {
@@ -229,14 +238,7 @@ public final class SaidShorter {
     if (n > MOST_WORDS) {
       return refused(ROOM);
     }
-    Fewest fewest = fewestFor(who);
-    int meanings = 0;
-    for (int meaning = 0; meaning < MEANINGS; meaning++) {
-      if (fewest.wordsFor(meaning) == n) {
-        meanings++;
-      }
-    }
-    return meanings;
+    return fewestFor(who).meaningsOfLength(n);
   }
 
   public int farthest(int who, int what) {
@@ -399,11 +401,12 @@ public final class SaidShorter {
       return refused(OTHER);
     }
     listenAs(PLAIN_ONE);
-    drawer.z = z;
+    seed = z;
     int lengths = 0;
     int hits = 0;
     for (int drawn = 0; drawn < n; drawn++) {
-      drawer.drawInto(scratch);
+      scratch.length = 0;
+      drawSaying(0);
       lengths += scratch.length;
       hits += listener.meaningOf(scratch) == meaning ? 1 : 0;
     }
@@ -515,13 +518,13 @@ public final class SaidShorter {
   private Fewest fewestFor(int who) {
     listenAs(who);
     Fewest fewest = fewestOf[noStranger(who) ? MOST_STRANGERS : who];
-    fewest.fillFor(listener);
+    fewest.turnTo(listener);
     return fewest;
   }
 
   private int wordsSavedBy(int meaning, Fewest fewestNow) {
     listener.knowInMind(meaning);
-    fewestThen.fillFor(listener);
+    fewestThen.turnTo(listener);
     int saved = 0;
     for (int scholar = 0; scholar < now.scholarCount; scholar++) {
       int meant = meaningOf(scholar);
@@ -556,6 +559,21 @@ public final class SaidShorter {
       }
     }
     return true;
+  }
+
+  /** Draws into scratch a saying that is in so many others; the deepest are facts. */
+  private void drawSaying(int depth) {
+    int word = DRAWN[drawBelow(depth < DEEPEST ? DRAWN.length : FACT_MEANINGS.length)];
+    scratch.add(word);
+    int parts = depth < DEEPEST ? Saying.partsOf(word) : 0;
+    for (int part = 0; part < parts; part++) {
+      drawSaying(depth + 1);
+    }
+  }
+
+  private int drawBelow(int n) {
+    seed = seed * 1103515245 + 12345;
+    return n > 0 ? (seed & 0x7fffffff) / 65536 % n : 0;
   }
 
   /** Tells well-formed letters to a copy, so that a fault leaves the school as it was. */
@@ -644,7 +662,11 @@ public final class SaidShorter {
       return x & y;
     }
 
-    /** In every kind the same for (y, x) as for (x, y): Fewest counts on it. */
+    /** Whether and(y, x) may be unlike and(x, y); or(x, y) has no sides in any kind. */
+    boolean andHasSides() {
+      return false;
+    }
+
     int or(int x, int y) {
       return x | y;
     }
@@ -693,6 +715,10 @@ public final class SaidShorter {
 
     int and(int x, int y) {
       return x & ~y;
+    }
+
+    boolean andHasSides() {
+      return true;
     }
   }
 
@@ -1045,21 +1071,26 @@ public final class SaidShorter {
     }
 
     private int meaningOfLeaf(int word) {
-      int name = word - 'A';
-      if (noName(name)) {
-        return Fewest.meaningOfFact(word - 'p');
+      int fact = word - 'p';
+      if (fact >= 0 && fact < FACT_MEANINGS.length) {
+        return FACT_MEANINGS[fact];
       }
-      return known[name] == NONE ? 0 : known[name];
+      int name = word - 'A';
+      return noName(name) || known[name] == NONE ? 0 : known[name];
     }
   }
 
-  /** For each meaning the fewest words by which it can be said to a listener. */
+  /**
+   * For each meaning the fewest words by which it can be said to a listener. Lengths are looked
+   * at one by one, only as far as a question needs.
+   */
   private static final class Fewest {
     /**
-     * Above twice the words of any shortest saying and one: every meaning that can be said is
-     * an or of at most 8 ands of at most 7 leaves, with a few n, which is below 127 words.
+     * Every meaning that can be said to a deaf one is an or of 8 ands (one for a world) of 8
+     * leaves with an n at the most, to others an or or and of 8 ands of three facts with a few
+     * n: below 144 words. Twice that and one stays below this bound.
      */
-    private static final int MOST_LENGTHS = 256;
+    private static final int LENGTH_BOUND = 512;
 
     private Stranger stranger = null;
     private final int[] known = new int[NAMES + 1];
@@ -1068,59 +1099,58 @@ public final class SaidShorter {
     private final int[] found = new int[MEANINGS];
     private int foundCount = 0;
     /** Where in found the meanings of a length start. */
-    private final int[] starts = new int[MOST_LENGTHS];
+    private final int[] starts = new int[LENGTH_BOUND];
+    /** All sayings of up to so many words have been looked at. */
+    private int length = 0;
+    private int longest = 0;
 
-    /** -9: it can not be said. */
-    int wordsFor(int meaning) {
-      return words[meaning & ALL_WORLDS];
-    }
-
-    int farthestMeaning() {
-      int farthest = 0;
-      for (int meaning = 1; meaning < MEANINGS; meaning++) {
-        if (words[meaning] > words[farthest]) {
-          farthest = meaning;
-        }
-      }
-      return farthest;
-    }
-
-    /** The worlds with the fact's bit (0 p, 1 q, 2 r). */
-    static int meaningOfFact(int fact) {
-      switch (fact) {
-        case 0:
-          return 170;
-        case 1:
-          return 204;
-        default:
-          return 240;
-      }
-    }
-
-    /** Does nothing where the last filling was for a listener who concludes the same. */
-    void fillFor(Listener listener) {
-      if (isFilledFor(listener)) {
+    /** Keeps what has been found where it was for a listener who concludes the same. */
+    void turnTo(Listener listener) {
+      if (isFor(listener)) {
         return;
       }
       stranger = listener.stranger;
       System.arraycopy(listener.known, 0, known, 0, known.length);
       Arrays.fill(words, NONE);
       foundCount = 0;
+      starts[1] = 0;
+      length = 1;
+      longest = 1;
       addLeaves();
-      int longest = 1;
-      // No saying of more words than two of the longest and a word that joins them is new.
-      for (int length = 2; length < MOST_LENGTHS && length <= 2 * longest + 1; length++) {
-        if (foundCount >= MEANINGS) {
-          break;
-        }
-        starts[length] = foundCount;
-        addNots(length);
-        addJoined(length);
-        longest = foundCount > starts[length] ? length : longest;
-      }
     }
 
-    private boolean isFilledFor(Listener listener) {
+    /** -9: it can not be said. */
+    int wordsFor(int meaning) {
+      int asked = meaning & ALL_WORLDS;
+      for (int i = 0; i < LENGTH_BOUND && words[asked] == NONE && !isComplete(); i++) {
+        lookAtNextLength();
+      }
+      return words[asked];
+    }
+
+    int meaningsOfLength(int asked) {
+      for (int i = 0; i < LENGTH_BOUND && length < asked && !isComplete(); i++) {
+        lookAtNextLength();
+      }
+      int meanings = 0;
+      for (int i = 0; i < foundCount; i++) {
+        meanings += words[found[i]] == asked ? 1 : 0;
+      }
+      return meanings;
+    }
+
+    int farthestMeaning() {
+      for (int i = 0; i < LENGTH_BOUND && !isComplete(); i++) {
+        lookAtNextLength();
+      }
+      int farthest = 0;
+      for (int meaning = 1; meaning < MEANINGS; meaning++) {
+        farthest = words[meaning] > words[farthest] ? meaning : farthest;
+      }
+      return farthest;
+    }
+
+    private boolean isFor(Listener listener) {
       if (stranger == null || stranger.kind() != listener.stranger.kind()
           || stranger.figure != listener.stranger.figure) {
         return false;
@@ -1133,80 +1163,66 @@ public final class SaidShorter {
       return true;
     }
 
+    /** A saying longer than two of the longest and the word that joins them says nothing new. */
+    private boolean isComplete() {
+      return foundCount >= MEANINGS || length > 2 * longest || length >= LENGTH_BOUND - 1;
+    }
+
+    private void lookAtNextLength() {
+      if (length < 1 || length >= LENGTH_BOUND - 1) {
+        return;
+      }
+      length++;
+      starts[length] = foundCount;
+      addNots();
+      addJoined();
+      if (foundCount > starts[length]) {
+        longest = length;
+      }
+    }
+
     private void addLeaves() {
-      starts[1] = 0;
-      for (int fact = 0; fact < 3; fact++) {
-        add(meaningOfFact(fact), 1);
+      for (int fact = 0; fact < FACT_MEANINGS.length; fact++) {
+        add(FACT_MEANINGS[fact]);
       }
       for (int i = 0; i < known.length; i++) {
         if (known[i] != NONE) {
-          add(known[i], 1);
+          add(known[i]);
         }
       }
     }
 
-    private void addNots(int length) {
+    private void addNots() {
       for (int i = starts[length - 1]; i < starts[length]; i++) {
-        add(stranger.not(found[i]), length);
+        add(stranger.not(found[i]));
       }
     }
 
-    private void addJoined(int length) {
-      for (int one = 1; one <= (length - 1) / 2 && foundCount < MEANINGS; one++) {
+    private void addJoined() {
+      boolean hasSides = stranger.andHasSides();
+      for (int one = 1; one <= (length - 1) / 2; one++) {
         int other = length - 1 - one;
         for (int i = starts[one]; i < starts[one + 1] && foundCount < MEANINGS; i++) {
+          int x = found[i];
           for (int k = starts[other]; k < starts[other + 1]; k++) {
-            addBoth(found[i], found[k], length);
+            int y = found[k];
+            add(stranger.and(x, y));
+            add(stranger.or(x, y));
+            if (hasSides) {
+              add(stranger.and(y, x));
+            }
           }
         }
       }
     }
 
-    private void addBoth(int x, int y, int length) {
-      add(stranger.and(x, y), length);
-      add(stranger.and(y, x), length);
-      add(stranger.or(x, y), length);
-    }
-
-    private void add(int meaning, int length) {
-      if (words[meaning & ALL_WORLDS] == NONE && foundCount < MEANINGS) {
-        words[meaning & ALL_WORLDS] = length;
-        found[foundCount] = meaning & ALL_WORLDS;
+    private void add(int meaning) {
+      int more = meaning & ALL_WORLDS;
+      if (words[more] == NONE && foundCount < MEANINGS) {
+        words[more] = length;
+        found[foundCount] = more;
         foundCount++;
       }
-    }
-  }
-
-  /** Draws sayings by a seed. */
-  private static final class Drawer {
-    private static final int DEEPEST = 3;
-    private static final int FACTS = 3;
-    private static final int[] DRAWN = {'p', 'q', 'r', 'n', 'a', 'o'};
-
-    int z = 0;
-    /** In how many others each saying is that is still to be drawn, the next one last. */
-    private final int[] depths = new int[MOST_WORDS];
-
-    void drawInto(Saying saying) {
-      saying.length = 0;
-      depths[0] = 0;
-      int waiting = 1;
-      for (int i = 0; i < MOST_WORDS && waiting > 0; i++) {
-        waiting--;
-        int depth = depths[waiting];
-        int word = DRAWN[drawBelow(depth < DEEPEST ? DRAWN.length : FACTS)];
-        saying.add(word);
-        int parts = Saying.partsOf(word);
-        for (int part = 0; part < parts && waiting < MOST_WORDS; part++) {
-          depths[waiting] = depth + 1;
-          waiting++;
-        }
-      }
-    }
-
-    private int drawBelow(int n) {
-      z = z * 1103515245 + 12345;
-      return n > 0 ? ((z & 0x7fffffff) / 65536) % n : 0;
     }
   }
 }
