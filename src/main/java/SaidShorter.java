@@ -1090,7 +1090,7 @@ public final class SaidShorter {
      * leaves with an n at the most, to others an or or and of 8 ands of three facts with a few
      * n: below 144 words. Twice that and one stays below this bound.
      */
-    private static final int LENGTH_BOUND = 512;
+    private static final int LENGTH_BOUND = 300;
 
     private Stranger stranger = null;
     private final int[] known = new int[NAMES + 1];

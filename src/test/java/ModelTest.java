@@ -45,8 +45,8 @@ public final class ModelTest {
 
     void go() {
       if (random.nextInt(4) > 0) {
-        tell("s" + random.nextInt(6) + random.nextInt(10) + ";s" + random.nextInt(6)
-            + random.nextInt(10) + ";h" + saying(3) + ";h" + saying(2) + ";");
+        tell("s" + random.nextInt(6) + figure() + ";s" + random.nextInt(6) + figure() + ";h"
+            + saying(3) + ";h" + saying(2) + ";");
       }
       while (calls < CALLS && wrong < 20) {
         if (random.nextInt(12) == 0) {
@@ -76,6 +76,11 @@ public final class ModelTest {
       same("school()", real.school(), model.school());
     }
 
+    /** Often the same, so that kinds alone tell strangers apart. */
+    int figure() {
+      return random.nextBoolean() ? 1 : random.nextInt(10);
+    }
+
     String saying(int depth) {
       int pick = random.nextInt(depth > 0 ? 14 : 7);
       if (pick < 7) {
@@ -102,7 +107,7 @@ public final class ModelTest {
     String statement() {
       switch (random.nextInt(5)) {
         case 0:
-          return "s" + random.nextInt(random.nextInt(6) == 0 ? 10 : 6) + random.nextInt(10) + ";";
+          return "s" + random.nextInt(random.nextInt(6) == 0 ? 10 : 6) + figure() + ";";
         case 1:
           return "h" + (random.nextInt(4) == 0 ? longSaying(17 + random.nextInt(6)) : saying(3)) + ";";
         case 2:

@@ -425,6 +425,7 @@ public final class PromisesTest {
     due("shortest(-1, np)", x.shortest(-1, 85), 2);
     due("shortest(-1, opq)", x.shortest(-1, 238), 3);
     due("shortest(-1, 0)", x.shortest(-1, 0), 4);
+    due("shortest(-1, 255)", x.shortest(-1, 255), 4);
     due("shortest(-1, 105)", x.shortest(-1, 105), 22);
     due("deaf 0", x.shortest(0, 0), -9);
     due("deaf np", x.shortest(0, 85), -9);
@@ -521,12 +522,27 @@ public final class PromisesTest {
     due("left out", x.saves(0, 136), 2);
     due("plain, ap np", x.saves(-1, 0), 3 - 5);
     due("none there", new SaidShorter().saves(-1, 85), -3);
+    due("none there", new SaidShorter().saves(-1, 255), -5);
+    savesByKinds();
     due("saves(1, 0)", x.saves(1, 0), FAR + 1);
     due("saves(-2, -1)", x.saves(-2, -1), FAR + 1);
     due("saves(0, -1)", x.saves(0, -1), FAR + 4);
     due("saves(0, 256)", x.saves(0, 256), FAR + 6);
     due("count(14)", x.count(14), 1);
     due("count(16)", x.count(16), 1);
+  }
+
+  /** Kinds of one figure asked in turn on one object answer as on objects of their own. */
+  private static void savesByKinds() {
+    String school = "s01;s11;s21;s31;s41;hoapqaropq;";
+    SaidShorter x = told(school);
+    due("deaf: oapqarA", x.saves(2, 238), -2);
+    for (int meaning = 0; meaning < 256; meaning += 17) {
+      for (int who = 4; who >= -1; who--) {
+        due("saves(" + who + ", " + meaning + ")", x.saves(who, meaning),
+            told(school).saves(who, meaning));
+      }
+    }
   }
 
   private static void joined() {
@@ -536,6 +552,8 @@ public final class PromisesTest {
     due("joined(-1, p, np)", x.joined(-1, P, 85), 1);
     due("joined, the same", x.joined(-1, 105, 105), -22);
     due("joined, far ones", x.joined(-1, 105, 150), 4 - 22 - x.shortest(-1, 150));
+    due("joined(-1, 255, p)", x.joined(-1, 255, P), -4);
+    due("joined(-1, p, 255)", x.joined(-1, P, 255), -4);
     due("deaf p, r", x.joined(0, P, R), 1);
     due("deaf, one can't", x.joined(0, P, 85), 99);
     due("deaf, other can't", x.joined(0, 85, P), 99);
@@ -593,6 +611,7 @@ public final class PromisesTest {
     due("not learnt", x.heard(0, 0, 1, 0), 120);
     due("the others", x.heard(-1, 0, 1, 0), 104);
     due("nothing changes", x.saying(0, 1), 'p');
+    due("255", x.heard(-1, 1, 1, 255), 8 + 32 + 64);
     due("heard(1, 0, 0, 0)", x.heard(1, 0, 0, 0), -1);
     due("heard(-2, 0, 0, 0)", x.heard(-2, 0, 0, 0), -1);
     due("heard(0, 2, -1, 0)", x.heard(0, 2, -1, 0), -1);
@@ -679,6 +698,7 @@ public final class PromisesTest {
     due("five", x.seeds(5, 1, P, 1), 1);
     // z 0 becomes 12345: by 65536 that is 0: p
     due("p", x.seeds(1, 0, P, 1), 1);
+    due("twenty, 255", x.seeds(20, 0, 255, 1) >= 0 ? 1 : 0, 1);
     due("seeds(0, 1, 0, 0)", x.seeds(0, 1, 0, 0), -4);
     due("seeds(21, 1, -1, 0)", x.seeds(21, 1, -1, 0), -4);
     due("seeds(1, 1, -1, 5)", x.seeds(1, 1, -1, 5), -4);
