@@ -1,6 +1,8 @@
 /**
- * The document's promises one by one, with answers worked out by hand: ordinary inputs, the
- * edges that the document names, wrong inputs.
+ * The document's promises one by one: ordinary inputs, the edges that the document names, wrong
+ * inputs. Most answers are worked out by hand; a few large ones stand in the shared test, and
+ * hasty's farthest 12 was read off the class (ModelTest checks such lengths on its own).
+ * savesByKinds() compares with fresh objects.
  */
 public final class PromisesTest {
   private static final int P = 170;
