@@ -7,6 +7,7 @@ import java.nio.charset.StandardCharsets;
 import java.nio.file.Files;
 import java.nio.file.Paths;
 import java.util.Arrays;
+import java.util.Random;
 import java.util.Set;
 import java.util.TreeSet;
 import java.util.regex.Matcher;
@@ -30,6 +31,7 @@ public final class RulesTest {
     face();
     members(SaidShorter.class);
     source();
+    neverThrows();
     room();
     System.out.println(wrong == 0 ? "the rules are kept" : wrong + " rules are broken");
     if (wrong != 0) {
@@ -143,6 +145,56 @@ public final class RulesTest {
         must(i - start < 60, "rule 11: the method at line " + (start + 1) + " is long");
         start = -1;
       }
+    }
+  }
+
+  /** Any arguments in many states, also behind the 512th call. */
+  private static void neverThrows() {
+    int[] numbers = {Integer.MIN_VALUE, Integer.MIN_VALUE + 1, -1000, -9, -2, -1, 0, 1, 2, 3, 4, 5, 6,
+        7, 19, 20, 21, 80, 105, 170, 254, 255, 256, 1000, Integer.MAX_VALUE - 1, Integer.MAX_VALUE};
+    String letters = "s0123456789;hclpqrABCDnao";
+    Random random = new Random(20);
+    for (int object = 0; object < 20; object++) {
+      SaidShorter x = new SaidShorter();
+      for (int call = 0; call < 3000; call++) {
+        if (random.nextInt(3) == 0) {
+          tell(x, random.nextBoolean() ? "s" + random.nextInt(6) + "9;hanAoqD;cBr;l0B;"
+              : "" + letters.charAt(random.nextInt(letters.length())));
+        }
+        Method method = faceMethod(random.nextInt(FACE.length));
+        Object[] arguments = new Object[method.getParameterCount()];
+        for (int i = 0; i < arguments.length; i++) {
+          arguments[i] = numbers[random.nextInt(numbers.length)];
+        }
+        answers(x, method, arguments);
+      }
+    }
+  }
+
+  private static void tell(SaidShorter x, String text) {
+    for (int i = 0; i < text.length(); i++) {
+      x.feed(text.charAt(i));
+    }
+    x.school();
+  }
+
+  private static Method faceMethod(int number) {
+    String[] face = FACE[number].split(" ");
+    Class<?>[] parameters = new Class<?>[Integer.parseInt(face[1])];
+    Arrays.fill(parameters, int.class);
+    try {
+      return SaidShorter.class.getMethod(face[0], parameters);
+    } catch (NoSuchMethodException missing) {
+      throw new IllegalStateException(missing);
+    }
+  }
+
+  private static void answers(SaidShorter x, Method method, Object[] arguments) {
+    try {
+      method.invoke(x, arguments);
+    } catch (ReflectiveOperationException thrown) {
+      must(false, "rule 7: " + method.getName() + Arrays.toString(arguments) + " threw "
+          + thrown.getCause());
     }
   }
 
