@@ -964,6 +964,17 @@ public final class BoundaryTermsTest {
       t.due("farthest(0, 0)", x.farthest(0, 0), 5);
       t.due("farthest(0, 1)", x.farthest(0, 1), 0);
     });
+    test(17, farthest, "the least meaning but nothing", t -> {
+      // aBaCD is world 0 alone, aAC nothing; 14 more need 5 words, by a search apart from the class
+      SaidShorter x = told("s20;l0A;l0B;l0C;l0D;");
+      int[] names = {8, 77, 225, 137};
+      for (int name = 0; name < names.length; name++) {
+        x.coin(name, names[name]);
+      }
+      t.due("farthest(0, 0)", x.farthest(0, 0), 5);
+      t.due("farthest(0, 1)", x.farthest(0, 1), 1);
+      t.due("shortest(0, 0)", x.shortest(0, 0), 3);
+    });
     test(17, farthest, "where names say what was far", t -> {
       SaidShorter x = told("s20;l0A;l0B;");
       x.coin(0, 232);

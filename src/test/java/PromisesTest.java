@@ -41,6 +41,7 @@ public final class PromisesTest {
     seeds();
     imageAndRestore();
     count();
+    readme();
     System.out.println(asked + " answers asked, " + wrong + " wrong");
     if (wrong != 0) {
       System.exit(1);
@@ -786,5 +787,21 @@ public final class PromisesTest {
       due("count(" + what + ")", x.count(what), -9);
     }
     due("count(12)", x.count(12), 1);
+  }
+
+  /** The example of README.md, and what it tells of the calls by numbers. */
+  private static void readme() {
+    promise = "README.md";
+    SaidShorter x = new SaidShorter();
+    due("two statements", tell(x, "s20;hnnp;"), 2);
+    due("concludes(0, 0)", x.concludes(0, 0), P);
+    due("shortest(-1, 105)", x.shortest(-1, 105), 22);
+    due("cut(-1, 0)", x.cut(-1, 0), 2);
+    due("concludes(7, 0)", x.concludes(7, 0), -1);
+    due("cut(7, 0)", x.cut(7, 0), FAR + 1);
+    due("count(11)", x.count(11), 2);
+    due("a letter too few", tell(x, "hnp"), -1003);
+    due("no such stranger", tell(x, "hp;l3A;"), -2003);
+    due("count(1)", x.count(1), 1);
   }
 }
